@@ -15,9 +15,9 @@ public final class SteadyCompiler {
     private static final int TRACE_ROOM = 5000;
     private static final int MOST_INSTRUCTIONS = 20000;
     private static final int MOST_TURNS = 5000;
-    // No token brings more than the 13 words that "6 n 0" makes of three, so 400 tokens stay under this.
+    // "6 n 0" makes 13 words of 3 tokens and nothing makes more of as few, so 400 tokens make 1730 words at most.
     private static final int CODE_ROOM = 2048;
-    // An E leaves at most two numbers waiting on each of its twelve levels, and 2 t E E one more.
+    // An E leaves at most two numbers waiting on each of its eleven levels, and 2 t E E one more.
     private static final int PILE_ROOM = 64;
     private static final int TABLE_SEEN = 4096;
 
@@ -363,7 +363,7 @@ public final class SteadyCompiler {
         }
 
         int placeIn(int t, int n) {
-            int size = sizeOf(t);
+            int size = hasTable(t) ? sizes[t] : 0;
             return size < 1 ? 0 : (int) ((n & 0xFFFFFFFFL) % size);
         }
     }
@@ -401,9 +401,6 @@ public final class SteadyCompiler {
         }
 
         void copyFrom(Program other) {
-            if (other == null) {
-                return;
-            }
             for (int i = 0; i < TEXT_ROOM; i++) {
                 tokens[i] = other.tokens[i];
                 behind[i] = other.behind[i];
@@ -430,7 +427,7 @@ public final class SteadyCompiler {
         }
 
         int tokenAt(int place) {
-            return has(place) ? tokens[place] : END;
+            return place >= 0 && place < size && place < TEXT_ROOM ? tokens[place] : END;
         }
 
         boolean begins(int place) {
@@ -476,9 +473,6 @@ public final class SteadyCompiler {
 
     /** What the tokens of E say of numbers. */
     private static final class Reckoning {
-        private Reckoning() {
-        }
-
         /** How many E stand behind a token of E. */
         static int partsOf(int token) {
             switch (token) {
@@ -599,10 +593,16 @@ public final class SteadyCompiler {
                     break;
                 case LAY:
                     readBelow(TABLES);
-                    secret = readExpression(depth + 1, masks) | readExpression(depth + 1, masks);
+                    boolean where = readExpression(depth + 1, masks);
+                    boolean what = readExpression(depth + 1, masks);
+                    secret = where || what;
                     break;
                 case IF:
-                    secret = readCondition(depth, masks);
+                    secret = readExpression(depth + 1, masks);
+                    int inner = secret ? masks + 1 : masks;
+                    if (readStatements(true, depth + 1, inner) == ELSE) {
+                        readStatements(false, depth + 1, inner);
+                    }
                     break;
                 case WHILE:
                     secret = readExpression(depth + 1, masks);
@@ -619,16 +619,6 @@ public final class SteadyCompiler {
             text.note(start, next, masks, secret);
         }
 
-        private boolean readCondition(int depth, int masks) {
-            boolean secret = readExpression(depth + 1, masks);
-            int inner = secret ? masks + 1 : masks;
-            int end = readStatements(true, depth + 1, inner);
-            if (end == ELSE) {
-                readStatements(false, depth + 1, inner);
-            }
-            return secret;
-        }
-
         /** Reads an E: whether it is SECRET. */
         private boolean readExpression(int depth, int masks) {
             int start = next;
@@ -639,7 +629,9 @@ public final class SteadyCompiler {
             boolean secret = readOwnWord(token);
             int parts = Reckoning.partsOf(token);
             for (int i = 0; i < parts; i++) {
-                secret = readExpression(depth + 1, masks) | secret;
+                if (readExpression(depth + 1, masks)) {
+                    secret = true;
+                }
             }
             text.note(start, next, masks, secret);
             return secret;
@@ -1072,7 +1064,7 @@ public final class SteadyCompiler {
         }
 
         private static int blend(int before, int after, int mask) {
-            return before & ~mask | after & mask;
+            return (before & ~mask) | (after & mask);
         }
 
         private int maskAt(int m) {
