@@ -92,6 +92,8 @@ public final class PlainTest {
         // The E that is asked at TURN 5000 still counts: it TRAPs here when the variable is 0.
         Due.feed(x, 1, 1, 20, 2499, 5, 26, 20, 1, 33, 20, 1, 21, 1, 1, 1, 23, 21, 1, 20, 1, 0, 0);
         due.same("plain() that traps at 5000", x.plain(), SteadyCompiler.TRAP);
+        Due.feed(x, 1, 1, 20, 2499, 5, 26, 20, 1, 33, 20, 1, 21, 1, 1, 1, 23, 21, 1, 20, 1, 0, 7, 20, 1, 0);
+        due.same("plain() that traps at 5000 before another S", x.plain(), SteadyCompiler.TRAP);
         Due.feed(x, 7, 20, 1, 1, 1, 20, 2499, 5, 26, 20, 1, 33, 20, 1, 21, 1, 1, 1, 23, 21, 1, 20, 1, 0, 0);
         due.same("plain() that is cut before it traps", x.plain(), SteadyCompiler.CUT);
         due.same("get(1)", x.get(1), 0);

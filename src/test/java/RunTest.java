@@ -8,6 +8,7 @@ public final class RunTest {
         operators(due);
         places(due);
         choices(due);
+        fullPile(due);
         branches(due);
         masks(due);
         maskedTables(due);
@@ -84,6 +85,15 @@ public final class RunTest {
         Due.feed(x, 7, 36, 20, 1, 20, 2, 33, 20, 1, 20, 0, 0);
         due.same("run()", x.run(), SteadyCompiler.TRAP);
         due.same("plain()", x.plain(), SteadyCompiler.TRAP);
+    }
+
+    /** The most numbers that can wait on the pile: two on each level of E, and the PLACE of a 2. */
+    private static void fullPile(Due due) {
+        int[] deepest = Due.join(Due.times(10, 36, 20, 0, 20, 3), Due.t(20, 8));
+        SteadyCompiler x = new SteadyCompiler();
+        Due.feed(x, Due.join(Due.t(2, 1, 20, 2), deepest, Due.t(0)));
+        due.same("run()", x.run(), 1 + 3 * 10 + 1 + 1 + 1);
+        due.same("at(1, 2)", x.at(1, 2), 8);
     }
 
     private static void branches(Due due) {
