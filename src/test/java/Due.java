@@ -3,6 +3,8 @@ import java.util.Arrays;
 /** Collects the answers that are not the ones that are due, and ends a test accordingly. */
 final class Due {
     private final String test;
+    private String sentence = "";
+    private int askedOfSentence = 1;
     private int asked;
     private int wrong;
 
@@ -10,11 +12,32 @@ final class Due {
         this.test = test;
     }
 
+    /** What follows is about these words of the document. */
+    void sentence(String words) {
+        wantSomeAsked();
+        sentence = "\"" + words + "\": ";
+        askedOfSentence = 0;
+    }
+
+    /** And of what these words say about this. */
+    void sentence(String words, String part) {
+        sentence(words);
+        sentence += part + ": ";
+    }
+
+    private void wantSomeAsked() {
+        if (askedOfSentence == 0) {
+            wrong++;
+            System.out.println(test + ": " + sentence + "nothing was asked");
+        }
+    }
+
     void same(String call, long got, long want) {
         asked++;
+        askedOfSentence++;
         if (got != want) {
             wrong++;
-            System.out.println(test + ": " + call + " answered " + got + ", due is " + want);
+            System.out.println(test + ": " + sentence + call + " answered " + got + ", due is " + want);
         }
     }
 
@@ -88,6 +111,7 @@ final class Due {
     }
 
     void end() {
+        wantSomeAsked();
         System.out.println(test + ": " + asked + " answers, " + wrong + " wrong");
         if (wrong != 0 || asked == 0) {
             System.exit(1);
