@@ -11,14 +11,18 @@ public final class CheckedEdgeTest {
     private static final int[][][] STATEMENTS_AROUND = {
         {{6, 1}, {0}, {2}}, {{3, 20, 1}, {0}, {1}}, {{3, 20, 1, 4}, {0}, {1}}, {{3, 20, 1}, {4, 0}, {1}}, {{5, 20, 0}, {0}, {1}}
     };
+    // The same, but such that the inner one is done, if variable 1 is 1.
+    private static final int[][][] STATEMENTS_DONE = {
+        {{6, 1}, {0}}, {{3, 20, 1}, {0}}, {{3, 20, 0, 4}, {0}}, {{3, 20, 1}, {4, 0}}, {{5, 21, 1}, {1, 1, 20, 0, 0}}
+    };
     // S around E.
     private static final int[][][] STATEMENTS_BEFORE = {
-        {{1, 0}, {}}, {{2, 0}, {20, 1}}, {{2, 0, 20, 1}, {}}, {{3}, {0}}, {{3}, {4, 0}}, {{5}, {0}}, {{7}, {}}
+        {{1, 0}, {}}, {{2, 0}, {20, 7}}, {{2, 0, 20, 1}, {}}, {{3}, {7, 20, 5, 0}}, {{3}, {4, 7, 20, 5, 0}}, {{5}, {0}}, {{7}, {}}
     };
-    // E around E.
+    // E around E, such that it matters what the inner one is.
     private static final int[][][] EXPRESSIONS_AROUND = {
-        {{22}, {20, 1}, {1}}, {{22, 20, 1}, {}, {1}}, {{32}, {}, {1}}, {{34}, {20, 1}, {1}}, {{34, 20, 1}, {}, {1}}, {{35, 0}, {}, {2}},
-        {{36}, {20, 1, 20, 1}, {1}}, {{36, 20, 1}, {20, 1}, {1}}, {{36, 20, 1, 20, 1}, {}, {1}}
+        {{22}, {20, 1}, {1}}, {{22, 20, 1}, {}, {1}}, {{32}, {}, {1}}, {{34}, {20, 100}, {1}}, {{33, 20, 100}, {}, {1}}, {{35, 0}, {}, {2}},
+        {{36}, {20, 1, 20, 0}, {1}}, {{36, 20, 1}, {20, 9}, {1}}, {{36, 20, 0, 20, 9}, {}, {1}}
     };
 
     public static void main(String[] args) {
@@ -30,6 +34,7 @@ public final class CheckedEdgeTest {
         behindTheLast(due);
         numbers(due);
         deepStatements(due);
+        deepestStatements(due);
         deepExpressions(due);
         deepTokens(due);
         wrongBeforeDeep(due);
@@ -50,6 +55,10 @@ public final class CheckedEdgeTest {
 
     private static void passes(Due due, int... tokens) {
         passes(due, new SteadyCompiler(), tokens);
+    }
+
+    private static boolean divides(int[][] kind) {
+        return kind[0][0] == 33 || kind[0][0] == 34;
     }
 
     private static void firstFault(Due due) {
@@ -186,8 +195,28 @@ public final class CheckedEdgeTest {
             // The twelfth 3 or 5 has its own E within 12 others; the twelfth 6 has none.
             due.fault(DEEP, kind[0][0] == 6 ? 24 : 11 * width + 1, ended(within(kind, 12, 6, 1, 0)));
         }
-        passes(due, ended(within(STATEMENTS_AROUND[0], 12)));
+        Edge.asModelled(due, ended(within(STATEMENTS_AROUND[0], 12)));
         due.fault(DEEP, 24, ended(within(STATEMENTS_AROUND[0], 13)));
+    }
+
+    private static void deepestStatements(Due due) {
+        due.sentence("DEEP: a token of S or E that is within 12 others of these", "what is within 11 is done");
+        for (int[][] kind : STATEMENTS_DONE) {
+            for (int[][] before : STATEMENTS_BEFORE) {
+                if (before[1].length < 4) {
+                    int[] inner = within(before, 1, 20, 77);
+                    Edge.asModelled(due, ended(Due.join(Due.t(1, 1, 20, 1), within(kind, 10, inner))));
+                }
+            }
+            Edge.asModelled(due, ended(Due.join(Due.t(1, 1, 20, 1), within(kind, 10, 3, 20, 1, 6, 1, 0, 4, 0))));
+            Edge.asModelled(due, ended(Due.join(Due.t(1, 1, 20, 1), within(kind, 10, 3, 20, 0, 4, 6, 1, 0, 0))));
+            Edge.asModelled(due, ended(Due.join(Due.t(1, 1, 20, 1), within(kind, 10, 6, 2, 6, 3, 0, 0))));
+            SteadyCompiler x = Edge.program(ended(Due.join(Due.t(1, 1, 20, 1), within(kind, 10, 7, 20, 77))));
+            due.holds("run()", x.run() > 0);
+            due.same("told(0)", x.told(0), 77);
+            due.holds("plain()", x.plain() > 0);
+            due.same("told(0)", x.told(0), 77);
+        }
     }
 
     private static void deepExpressions(Due due) {
@@ -195,7 +224,8 @@ public final class CheckedEdgeTest {
         for (int[][] before : STATEMENTS_BEFORE) {
             for (int[][] kind : EXPRESSIONS_AROUND) {
                 int begin = before[0].length;
-                passes(due, ended(within(before, 1, within(kind, 9, 20, 1))));
+                Edge.asModelled(due, ended(within(before, 1, within(kind, 9, 20, 77))));
+                Edge.asModelled(due, ended(within(before, 1, within(kind, 10, 20, 77))));
                 passes(due, ended(within(before, 1, within(kind, 10, 21, 1))));
                 due.fault(DEEP, begin + 10 * kind[0].length + kind[2][0], ended(within(before, 1, within(kind, 11, 20, 1))));
             }
@@ -279,7 +309,7 @@ public final class CheckedEdgeTest {
         for (int[] e : secret) {
             due.fault(Edge.secrets(), LEAK, 0, Due.join(Due.t(7), e, Due.t(0)));
             for (int[][] kind : EXPRESSIONS_AROUND) {
-                if (kind[0][0] != 34) {
+                if (!divides(kind)) {
                     due.fault(Edge.secrets(), LEAK, 0, ended(Due.join(Due.t(7), within(kind, 1, e))));
                     due.fault(Edge.secrets(), LEAK, 0, ended(Due.join(Due.t(7), within(kind, 8, e))));
                 }
@@ -365,7 +395,7 @@ public final class CheckedEdgeTest {
             fine(due, Due.join(Due.t(3), e, Due.t(0)));
             fine(due, Due.join(Due.t(3), e, Due.t(4, 6, 3, 0, 0)));
             for (int[][] kind : EXPRESSIONS_AROUND) {
-                if (kind[0][0] != 34) {
+                if (!divides(kind)) {
                     fine(due, Due.join(Due.t(1, 2), within(kind, 1, e)));
                 }
             }

@@ -26,6 +26,7 @@ public final class CodeEdgeTest {
         branchesWithoutStatements(due);
         loopsWithoutStatements(due);
         traceOfTrap(due);
+        traceOfOthers(due);
         traceOfPlaces(due);
         traceOfWholeTables(due);
         due.end();
@@ -213,6 +214,10 @@ public final class CodeEdgeTest {
             due.same("told(59)", x.told(59), 1);
             due.same("told(60)", x.told(60), 2);
         }
+        // 400 times over nothing is left on the pile.
+        x = Edge.program(6, 20, 6, 20, 6, 2, 7, 20, 1, 0, 0, 0, 0);
+        due.same("run() with 421 of 29", x.run(), 5 + 20 * (6 + 5 + 20 * (6 + 5 + 2 * 8)) + 1);
+        due.same("count(2)", x.count(2), 800);
         // A TRAP amid the rounds leaves a COUNT that the next RUN does not see.
         x = Edge.program(6, 5, 7, 33, 20, 1, 23, 21, 1, 20, 3, 1, 1, 22, 21, 1, 20, 1, 0, 0);
         due.same("run() with a TRAP", x.run(), TRAP);
@@ -320,6 +325,32 @@ public final class CodeEdgeTest {
         x = Edge.program(5, 20, 1, 0, 0);
         due.same("run() for ever", x.run(), CUT);
         due.same("count(3): no more than are begun", x.count(3), 20000);
+    }
+
+    private static void traceOfOthers(Due due) {
+        due.sentence("for each instruction that is begun (also the one that TRAPs) where it stands", "and of each other one that alone");
+        for (int token = 22; token <= 34; token++) {
+            if (token != 32) {
+                SteadyCompiler x = Edge.program(7, token, 20, 1, 21, 0, 0);
+                x.set(0, 1);
+                due.same("run() of " + token, x.run(), 5);
+                due.trace(x, 0, 2, 4, 5, 6);
+            }
+        }
+        SteadyCompiler x = Edge.program(1, 3, 36, 32, 20, 1, 20, 2, 20, 3, 7, 21, 3, 0);
+        due.same("run() of 14, 17, 3, 20", x.run(), 9);
+        due.trace(x, 0, 2, 3, 5, 7, 8, 10, 12, 13);
+        x = Edge.secrets();
+        Due.feed(x, 3, 21, 1, 1, 1, 20, 5, 4, 1, 2, 20, 6, 0, 0);
+        x.put(1, 0, 7);
+        x.put(2, 0, 7);
+        due.same("run() of 23, 25, 24", x.run(), 8);
+        due.trace(x, 0, 2, 4, 6, 9, 11, 13, 16);
+        due.same("at(1, 0): 25 touches no TABLE", x.at(1, 0), 7);
+        due.same("at(2, 0): 25 touches no TABLE", x.at(2, 0), 7);
+        x = Edge.program(6, 1, 5, 20, 0, 0, 0, 0);
+        due.same("run() of 29, 30, 19, 31, 18", x.run(), 14);
+        due.trace(x, 0, 2, 4, 6, 7, 9, 11, 15, 17, 2, 4, 6, 7, 19);
     }
 
     private static void traceOfPlaces(Due due) {

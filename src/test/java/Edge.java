@@ -68,4 +68,38 @@ final class Edge {
     private static int[] countdown(int rounds) {
         return Due.t(1, 0, 20, rounds, 5, 21, 0, 1, 0, 23, 21, 0, 20, 1, 0);
     }
+
+    /** Whether this PROGRAM has the CODE, and does in both kinds of run, what the Model says. */
+    static void asModelled(Due due, int... tokens) {
+        SteadyCompiler x = new SteadyCompiler();
+        Model y = new Model();
+        for (int i = 0; i < 4; i++) {
+            x.put(0, i, (i + 1) % 4);
+            y.tables[0][i] = (i + 1) % 4;
+        }
+        for (int n : tokens) {
+            y.token(n);
+        }
+        String text = java.util.Arrays.toString(tokens) + ": ";
+        due.same(text + "check()", Due.feed(x, tokens), y.check());
+        for (int i = 0; i < y.code.size(); i++) {
+            due.same(text + "code(" + i + ")", x.code(i), y.code.get(i));
+        }
+        due.same(text + "run()", x.run(), y.run());
+        sameNumbers(due, text, x, y);
+        due.same(text + "mark()", x.mark(), y.mark());
+        due.same(text + "plain()", x.plain(), y.plain());
+        sameNumbers(due, text, x, y);
+    }
+
+    private static void sameNumbers(Due due, String text, SteadyCompiler x, Model y) {
+        due.same(text + "count(2)", x.count(2), y.told.size());
+        due.same(text + "told(0)", x.told(0), y.told.isEmpty() ? 0 : y.told.get(0));
+        for (int v = 0; v <= 9; v++) {
+            due.same(text + "get(" + v + ")", x.get(v), y.variables[v]);
+        }
+        for (int i = 0; i < 4; i++) {
+            due.same(text + "at(0, " + i + ")", x.at(0, i), y.tables[0][i]);
+        }
+    }
 }

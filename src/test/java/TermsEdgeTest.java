@@ -20,6 +20,7 @@ public final class TermsEdgeTest {
         times(due);
         told(due);
         thatNumber(due);
+        bits(due);
         moves(due);
         comparisons(due);
         isZero(due);
@@ -258,6 +259,19 @@ public final class TermsEdgeTest {
         }
         due.fault(WRONG, 2, 7, 20);
         due.fault(WRONG, 3, 7, 20, 0);
+    }
+
+    private static void bits(Due due) {
+        due.sentence("and, or, exclusive or, bit by bit");
+        for (int i = 0; i < 32; i++) {
+            int bit = 1 << i;
+            Edge.values(due, 25, Due.t(bit, bit, bit), Due.t(bit, ~bit, 0), Due.t(-1, bit, bit), Due.t(0, bit, 0));
+            Edge.values(due, 26, Due.t(bit, bit, bit), Due.t(bit, ~bit, -1), Due.t(-1, bit, -1), Due.t(0, bit, bit));
+            Edge.values(due, 27, Due.t(bit, bit, 0), Due.t(bit, ~bit, -1), Due.t(-1, bit, ~bit), Due.t(0, bit, bit));
+        }
+        Edge.values(due, 25, Due.t(12, 10, 8), Due.t(MIN, MAX, 0), Due.t(MIN, -1, MIN));
+        Edge.values(due, 26, Due.t(12, 10, 14), Due.t(MIN, MAX, -1), Due.t(MIN, 0, MIN));
+        Edge.values(due, 27, Due.t(12, 10, 6), Due.t(MIN, MAX, -1), Due.t(MIN, MIN, 0));
     }
 
     private static void moves(Due due) {
