@@ -256,6 +256,8 @@ public final class CheckedEdgeTest {
         due.fault(NUMBER, 23, ended(within(six, 11, 6, 21, 0)));
         due.fault(NUMBER, 23, ended(within(six, 11, 2, 4, 20, 1, 20, 1)));
         passes(due, ended(within(six, 10, 3, 20, 1, 4, 0)));
+        passes(due, ended(within(six, 12)));
+        due.fault(WRONG, 24, ended(within(six, 12, 4)));
     }
 
     private static void wrongBeforeDeep(Due due) {

@@ -126,11 +126,16 @@ public final class PromiseEdgeTest {
             due.same("run()", x.run(), 3);
             due.same("plain()", x.plain(), 1);
         }
-        boolean[] both = {true, false};
-        for (boolean secret : both) {
-            SteadyCompiler x = Edge.program(7, 20, 5, 0);
-            x.variable(9, secret);
-            dropped(due, x);
+        for (int v = 0; v <= 9; v++) {
+            for (int state = 0; state < 4; state++) {
+                boolean was = state % 2 == 1;
+                boolean becomes = state / 2 == 1;
+                SteadyCompiler x = new SteadyCompiler();
+                x.variable(v, was);
+                Due.feed(x, 7, 20, 5, 0);
+                due.same("variable(" + v + ", " + becomes + ")", x.variable(v, becomes), was ? 1 : 0);
+                dropped(due, x);
+            }
         }
     }
 
@@ -198,11 +203,17 @@ public final class PromiseEdgeTest {
             due.same("run()", x.run(), 3);
             due.same("plain()", x.plain(), 1);
         }
-        int[][] some = {{0, 1}, {0, 4}, {3, 16}};
-        for (int[] pair : some) {
-            SteadyCompiler x = Edge.program(7, 20, 5, 0);
-            x.table(pair[0], false, pair[1]);
-            dropped(due, x);
+        int[] sizes = {1, 4, 16};
+        for (int t = 0; t <= 3; t++) {
+            for (int size : sizes) {
+                for (int state = 0; state < 4; state++) {
+                    SteadyCompiler x = new SteadyCompiler();
+                    x.table(t, state % 2 == 1, 4);
+                    Due.feed(x, 7, 20, 5, 0);
+                    due.same("table(" + t + ", .., " + size + ")", x.table(t, state / 2 == 1, size), 4);
+                    dropped(due, x);
+                }
+            }
         }
     }
 
